@@ -9,6 +9,7 @@ public final class NaiveCuttingsTest {
     public static void main(String[] args) {
         NaiveCuttingsTest test = new NaiveCuttingsTest();
         for (int run = 0; run < 500 && test.checks.wrong() < 20; run++) test.run(run);
+        for (int run = 0; run < 1500 && test.checks.wrong() < 20; run++) test.choose(run);
         test.checks.holds("orders filled: " + test.filled, test.filled > 1500);
         test.checks.end();
     }
@@ -31,6 +32,25 @@ public final class NaiveCuttingsTest {
             checks.due("cut", made, naive.cut());
             look();
         }
+    }
+
+    /** More orders than there are feet for: many sets of orders are equally good. */
+    private void choose(int run) {
+        mill = new WireMill();
+        naive = new NaiveMill();
+        luck = new Luck(run);
+        int most = luck.any(2, 7), coils = luck.any(1, 4);
+        for (int i = 0; i < coils; i++) {
+            int feet = luck.any(1, 2 * most);
+            checks.due("coil", mill.coil(0, 300, feet, false), naive.coil(0, 300, feet, false));
+        }
+        for (int i = 0; i < 6; i++) {
+            int feet = luck.any(1, most);
+            checks.due("order", mill.order(0, 300, 300, feet), naive.order(0, 300, 300, feet));
+        }
+        look();
+        checks.due("cut", mill.cut(), naive.cut());
+        look();
     }
 
     private void rod(int most) {

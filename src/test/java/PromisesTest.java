@@ -51,7 +51,7 @@ public final class PromisesTest {
     public static void main(String[] args) {
         aNewObject(); metal(); set(); puller(); hole(); told(); gauge(); ream();
         coil(); at(); stuff(); asks(); draw(); drawsRefused(); spent(); fire(); part(); join(); scrap(); ready();
-        way(); step(); go();
+        way(); step(); longestWay(); go();
         order(); cutting(); from(); cut(); trim(); filled();
         note(); tally(); by(); chance(); cause(); account(); count();
         CHECKS.end();
@@ -348,6 +348,13 @@ public final class PromisesTest {
         due("13 torn", y.draw(0, 0, 0, 1), TORN);
         y.set(1, 78);
         due("13 it bears", y.draw(0, 0, 0, 1), 17);
+        WireMill e = mill(120, 10, 100);
+        e.metal(0, 1, 0, 1, 0, 0);
+        e.set(0, 0);
+        e.set(1, 43);
+        due("13 asks 4400, bears 4300", e.draw(0, 0, 0, 1), TORN);
+        e.set(1, 44);
+        due("13 asks 4400, bears as much", e.draw(0, 0, 0, 1), 14);
         WireMill z = mill(100, 10, 80);
         z.metal(0, 100, 0, 1, 10, 5);
         z.set(0, 0);
@@ -559,6 +566,21 @@ public final class PromisesTest {
         due("20 there already", x.step(0, 0, 2, 90, 90, 0), NONE);
     }
 
+    /** Each hole a tenth finer, each draw 19 harder, which is the limit: a fire ahead of each. */
+    private static void longestWay() {
+        WireMill x = mill(1000, 100, 387, 430, 478, 531, 590, 656, 729, 810);
+        x.hole(1, 900);
+        x.metal(0, 100, 100, 19, 10, 5);
+        x.draw(0, 1, 0, 1);
+        due("19 the longest", x.way(0, 0, 1, 387, 387), 808);
+        for (int i = 0; i < 16; i++) due("20 step " + i, x.step(0, 0, 1, 387, 387, i), i % 2 == 0 ? 8 : 7 - i / 2);
+        due("20 no more", x.step(0, 0, 1, 387, 387, 16), NONE);
+        due("21 all of it", x.go(0, 0, 1, 387, 387), 16);
+        due("21 size", x.at(0, 1), 387);
+        due("21 draws", x.count(5), 9);
+        due("21 fires", x.count(6), 8);
+    }
+
     private static void go() {
         WireMill x = mill(100, 10, 90, 81, 73);
         x.metal(0, 100, 100, 40, 0, 5);
@@ -647,6 +669,21 @@ public final class PromisesTest {
         y.order(0, 300, 300, 4);
         due("24 one order of ten ahead of two", y.from(0), 0);
         due("24", y.from(2), NONE);
+        WireMill z = mill(300, 8);
+        int[] feet = {5, 4, 4, 3}, least = {0, NONE, NONE, 0};
+        for (int i = 0; i < 4; i++) z.order(0, 300, 300, feet[i]);
+        for (int i = 0; i < 4; i++) due("24 eight feet with order 0 ahead of eight without " + i, z.from(i), least[i]);
+        WireMill u = mill(300, 5);
+        u.coil(0, 300, 2, false);
+        u.order(0, 300, 300, 3);
+        u.order(0, 300, 300, 4);
+        u.order(0, 300, 300, 1);
+        u.order(0, 300, 300, 6);
+        u.order(0, 300, 300, 2);
+        // 7 feet at most: 4 and 1 from one, 2 from the other; or 3 and 2 from one, 1 from the other is 6
+        int[] seven = {NONE, 0, 0, NONE, 1};
+        due("23", u.cutting(), 7);
+        for (int i = 0; i < 5; i++) due("24 the most feet " + i, u.from(i), seven[i]);
     }
 
     private static void cut() {
