@@ -1,6 +1,7 @@
 /** Long runs of calls, always the same ones, on WireMill and on NaiveMill: both answer alike. */
 public final class NaiveMillTest {
-    private static final int CALLS = 480;
+    /** A look makes 244 calls more and one pick 19 at most: an object has 512. */
+    private static final int CALLS = 240;
     private static final int[] EDGES = {-2147483648, -1, 0, 1, 2, 3, 4, 5, 6, 7, 8, 9, 10, 16, 19, 20, 50, 51, 100, 101,
         1000, 1001, 10000, 10001, 2147483647};
 
@@ -9,6 +10,7 @@ public final class NaiveMillTest {
     private NaiveMill naive;
     private Luck luck;
     private String last;
+    private int calls;
 
     private NaiveMillTest(Checks checks) {
         this.checks = checks;
@@ -17,7 +19,7 @@ public final class NaiveMillTest {
     public static void main(String[] args) {
         Checks checks = new Checks();
         NaiveMillTest test = new NaiveMillTest(checks);
-        for (int run = 0; run < 400 && checks.wrong() < 20; run++) test.run(run);
+        for (int run = 0; run < 2000 && checks.wrong() < 20; run++) test.run(run);
         checks.end();
     }
 
@@ -25,16 +27,17 @@ public final class NaiveMillTest {
         mill = new WireMill();
         naive = new NaiveMill();
         luck = new Luck(77 + 1000003L * run);
+        calls = 0;
         for (int i = 0; i < 25; i++) pick(0);
-        int stress = run % 4;
-        for (int i = 0; i < CALLS && checks.wrong() < 20; i++) {
+        int stress = run % 4, most = any(60, CALLS);
+        for (int i = 0; i < 4 * CALLS && calls < most && checks.wrong() < 20; i++) {
             if (any(0, 9) == 0) pick(any(0, 4));
             else pick(stress);
-            if (i % 20 == 0) look(run);
         }
         look(run);
         long all = mill.account(1) + mill.account(2) + mill.account(3) + mill.account(4);
         checks.due("run " + run + ": all that came in", all, mill.account(0));
+        checks.holds("run " + run + ": calls " + calls, calls + 5 <= 512);
     }
 
     private int any(int low, int high) {
@@ -54,14 +57,15 @@ public final class NaiveMillTest {
     }
 
     private int aCoil() {
-        int n = mill.count(0);
+        int n = (int) naive.count(0);
         int pick = near(0, Math.max(0, n - 1));
-        for (int i = 0; i < 6 && mill.at(pick, 0) < 0 && any(0, 9) > 0; i++) pick = any(0, Math.max(0, n - 1));
+        for (int i = 0; i < 6 && naive.at(pick, 0) < 0 && any(0, 9) > 0; i++) pick = any(0, Math.max(0, n - 1));
         return pick;
     }
 
     private void due(String call, long got, long want) {
         last = call;
+        calls++;
         checks.due(call, got, want);
     }
 
@@ -94,7 +98,7 @@ public final class NaiveMillTest {
             default:
                 b = any(0, 3) == 0 ? near(20, 1000) : any(300, 310); c = near(1, any(0, 1) == 0 ? 1000 : 30);
                 boolean bad = any(0, 3) == 0;
-                if (mill.count(0) < 10 || any(0, 30) == 0) due("coil", mill.coil(a, b, c, bad), naive.coil(a, b, c, bad));
+                if (naive.count(0) < 10 || any(0, 30) == 0) due("coil", mill.coil(a, b, c, bad), naive.coil(a, b, c, bad));
         }
     }
 
@@ -116,7 +120,7 @@ public final class NaiveMillTest {
     }
 
     private void steps(int a, int b, int d, int low, int high) {
-        int way = mill.way(a, b, d, low, high);
+        int way = (int) naive.way(a, b, d, low, high);
         int length = way <= 0 ? 0 : way / 100 + way % 100;
         for (int i = -1; i <= length; i++) {
             due("step", mill.step(a, b, d, low, high, i), naive.step(a, b, d, low, high, i));
@@ -174,18 +178,15 @@ public final class NaiveMillTest {
         }
     }
 
-    /** All that can be seen. */
+    /** What can be seen; nearly all work is done with the first two plates. */
     private void look(int run) {
         String where = "run " + run + ", behind " + last + ": ";
-        for (int i = -1; i <= 16; i++) {
-            for (int k = -1; k <= 7; k++) due(where + "at " + i + " " + k, mill.at(i, k), naive.at(i, k));
+        for (int i = 0; i < 16; i++) {
+            for (int k = 0; k < 7; k++) due(where + "at " + i + " " + k, mill.at(i, k), naive.at(i, k));
             due(where + "stuff " + i, mill.stuff(i), naive.stuff(i));
         }
-        for (int p = -1; p <= 4; p++) {
-            for (int i = -1; i <= 8; i++) {
-                for (int k = -1; k <= 5; k++) due(where + "told " + p + " " + i, mill.told(p, i, k), naive.told(p, i, k));
-                due(where + "gauge " + p + " " + i, mill.gauge(p, i), naive.gauge(p, i));
-            }
+        for (int i = 0; i < 16; i++) {
+            for (int k = 0; k < 5; k++) due(where + "told " + i + " " + k, mill.told(i / 8, i % 8, k), naive.told(i / 8, i % 8, k));
         }
         for (int i = -1; i <= 7; i++) {
             due(where + "ready " + i, mill.ready(i), naive.ready(i));

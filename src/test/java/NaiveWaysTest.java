@@ -10,7 +10,7 @@ public final class NaiveWaysTest {
 
     public static void main(String[] args) {
         NaiveWaysTest test = new NaiveWaysTest();
-        for (int run = 0; run < 1500 && test.checks.wrong() < 20; run++) test.run(run);
+        for (int run = 0; run < 4000 && test.checks.wrong() < 20; run++) test.run(run);
         test.checks.holds("ways with fires: " + test.withFires, test.withFires > 300);
         test.checks.holds("ways with three draws and more: " + test.withMany, test.withMany > 300);
         test.checks.holds("ways not gone to the end: " + test.cutShort, test.cutShort > 10);
@@ -22,7 +22,8 @@ public final class NaiveWaysTest {
         naive = new NaiveMill();
         luck = new Luck(run);
         equip();
-        for (int i = 0; i < 6; i++) {
+        // three rods make 501 calls at most, and an object has 512
+        for (int i = 0; i < 3; i++) {
             int rod = rod();
             for (int k = 0; k < 4; k++) look(rod, luck.any(90, 230));
             if (luck.any(0, 1) == 0) change();
