@@ -275,6 +275,12 @@ public final class EdgesOfWaysTest {
         due("go", x.go(0, 0, 1, 542, 542), 5);
         due("hard", x.at(0, 2), 100);
         dueWay(x, 541, NONE);
+        // and these just 99 hard
+        WireMill y = Mills.with(1000, 100, 817, 668, 546);
+        y.metal(0, 100, 300, 99, 0, 0);
+        dueWay(y, 546, 203, 0, FIRE, 1, FIRE, 2);
+        due("go", y.go(0, 0, 1, 546, 546), 5);
+        due("hard", y.at(0, 2), 99);
     }
 
     private static void asItIsNow() {
